@@ -456,8 +456,10 @@ public final class Rowscan {
             int seen = 0;
             for (int row = 0; row < rows; row++) {
                 int first = columnsOf(forth, row);
-                // each step but the last one comes to a row more, so rows are steps enough
-                seen |= spread(first, forth, back, rows) << row * columns;
+                if (first != 0) {
+                    // each step but the last one comes to a row more, so rows are steps enough
+                    seen |= spread(first, forth, back, rows) << row * columns;
+                }
             }
             return seen & fitted;
         }

@@ -10,6 +10,7 @@ public final class PromisesTest {
         PromisesTest test = new PromisesTest();
         test.promise1();
         test.promise2();
+        test.layAfterTyping();
         test.promise3();
         test.promise4();
         test.promise5();
@@ -138,6 +139,36 @@ public final class PromisesTest {
         for (int[] size : wrong) {
             refuses(x, "2: lay(" + size[0] + ", " + size[1] + ")", ARGUMENT,
                     () -> x.lay(size[0], size[1]));
+        }
+    }
+
+    private void layAfterTyping() {
+        Rowscan x = new Rowscan();
+        for (int round = 0; round < 2; round++) {
+            String when = "2: round " + round + ", ";
+            x.patience(1, false);
+            x.chord(3, 23);
+            x.key(1, true, false, 2, 0);
+            press(x, 0);
+            x.key(1, true, false, 0, 0);
+            press(x, 1);
+            due(when + "a chord of events at the same scans", "abx", x::text);
+            for (int i = 0; i < 60; i++) {
+                press(x, 8);
+                lift(x, 8);
+            }
+            due(when + "lost", 3, () -> x.board(13));
+            due(when + "typed", 1, () -> x.board(12));
+            x.key(1, true, false, 2, 0);
+            x.hold(1, false);
+            x.patience(3, false);
+            x.scan(1);
+            x.lay(3, 3);
+            boardIs(when + "laid", x, 3, 3, 0, 0, x.board(4), 2, 0, 0, 0, 3, 0, 0, 0, 0, 0);
+            due(when + "no text", "", x::text);
+            due(when + "no count", 0, () -> x.of(1, 7));
+            due(when + "no bounce", 0, () -> x.of(1, 5));
+            due(when + "no lag", 0, () -> x.of(8, 9));
         }
     }
 
@@ -616,6 +647,11 @@ public final class PromisesTest {
         due("14: nothing to take away", "", x::text);
         press(x, 0);
         lift(x, 0);
+        press(x, 1);
+        lift(x, 1);
+        due("14: the only sign away", "", x::text);
+        press(x, 0);
+        lift(x, 0);
         press(x, 2);
         lift(x, 2);
         press(x, 3);
@@ -853,6 +889,24 @@ public final class PromisesTest {
             x.key(key, true, true, 0, 0);
         }
         due("23: clear", true, x::isSound);
+        x.lay(2, 2);
+        for (int key = 0; key < 4; key++) {
+            x.key(key, true, key % 2 == 0, 0, 0);
+            x.hold(key, true);
+        }
+        due("23: held", true, x::isSound);
+        x.code(0, 0, 26);
+        x.patience(1, false);
+        for (int i = 0; i < 61; i++) {
+            press(x, 0);
+            due("23: with a long text", true, x::isSound);
+            x.hold(1, false);
+            x.hold(2, false);
+            x.hold(3, false);
+            lift(x, 0);
+        }
+        due("23: text is full", 60, () -> x.text().length());
+        x.lay(3, 3);
         for (int key = 0; key < 9; key++) {
             x.key(key, false, false, 0, 0);
         }
