@@ -5,7 +5,6 @@ public final class ModelTest {
     private static final int RUNS = 400;
     private static final int CALLS = 512;
 
-    private final Check check = new Check();
     private final Random random;
     private final int run;
     private Rowscan real;
