@@ -30,6 +30,18 @@ final class Check {
         due(what, "throws." + kind.getName(), call);
     }
 
+    /** A test for one sentence of the document, which is told with how many checks it had. */
+    void sentence(String words, Runnable test) {
+        int passedBefore = passed;
+        int failedBefore = failed;
+        test.run();
+        if (passed == passedBefore) {
+            failed++;
+        }
+        String found = failed == failedBefore ? "holds" : "DOES NOT HOLD";
+        System.out.println("  " + found + " (" + (passed - passedBefore) + "): " + words);
+    }
+
     void end(String name) {
         System.out.println(name + ": " + passed + " passed, " + failed + " failed");
         if (failed > 0 || passed == 0) {

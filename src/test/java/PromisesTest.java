@@ -1,11 +1,5 @@
 /** Each promise of the document by its number: ordinary inputs, edges and wrong inputs. */
-public final class PromisesTest {
-    private static final Class<IllegalArgumentException> ARGUMENT = IllegalArgumentException.class;
-    private static final Class<IndexOutOfBoundsException> INDEX = IndexOutOfBoundsException.class;
-    private static final Class<IllegalStateException> STATE = IllegalStateException.class;
-
-    private final Check check = new Check();
-
+public final class PromisesTest extends Trial {
     public static void main(String[] args) {
         PromisesTest test = new PromisesTest();
         test.promise1();
@@ -40,33 +34,12 @@ public final class PromisesTest {
         test.check.end("PromisesTest");
     }
 
-    private void due(String what, Object want, Check.Call call) {
-        check.due(what, want, call);
-    }
-
     /** A call that is refused with just this exception, and changes nothing by that. */
     private void refuses(Rowscan x, String what, Class<? extends RuntimeException> kind,
             Check.Call call) {
         long before = x.digest();
         check.refuses(what, kind, call);
         due(what + " changes nothing", before, x::digest);
-    }
-
-    private static void press(Rowscan x, int key) {
-        x.hold(key, true);
-        x.scan(1);
-    }
-
-    private static void lift(Rowscan x, int key) {
-        x.hold(key, false);
-        x.scan(1);
-    }
-
-    private static Rowscan quick(int rows, int columns) {
-        Rowscan x = new Rowscan();
-        x.lay(rows, columns);
-        x.patience(1, false);
-        return x;
     }
 
     private void boardIs(String when, Rowscan x, int... want) {
@@ -913,33 +886,9 @@ public final class PromisesTest {
         due("23: without a key", true, x::isSound);
     }
 
-    /** The checksum as the document tells it, of what the other calls answer. */
-    private static long sumOf(Rowscan x) {
-        long d = 6553;
-        for (int what = 0; what <= 14; what++) {
-            d = d * 31 + x.board(what);
-        }
-        for (int what = 0; what <= 5; what++) {
-            d = d * 31 + x.set(what);
-        }
-        for (int key = 0; key < x.board(0) * x.board(1); key++) {
-            for (int what = 0; what <= 10; what++) {
-                d = d * 31 + x.of(key, what);
-            }
-            d = d * 31 + x.wouldGhost(key);
-        }
-        for (char sign : x.text().toCharArray()) {
-            d = d * 31 + sign;
-        }
-        d = d * 31 + x.unclear(3);
-        d = d * 31 + x.bestDiode();
-        d = d * 31 + (long) (64 * x.lag());
-        return d * 31 + (x.isSound() ? 1 : 0);
-    }
-
     private void promise24() {
         Rowscan x = new Rowscan();
-        due("24: new", sumOf(new Rowscan()), x::digest);
+        due("24: new", Traces.sum(new Rowscan()), x::digest);
         due("24: as long as nothing is changed", x.digest(), x::digest);
         x.lay(4, 5);
         x.key(7, true, true, 3, 0);
@@ -949,7 +898,7 @@ public final class PromisesTest {
             x.hold(key, true);
             x.scan(1 + key % 3);
         }
-        long want = sumOf(x);
+        long want = Traces.sum(x);
         due("24: used", want, x::digest);
         x.call();
         due("24: a refused call more", true, () -> x.digest() != want);
