@@ -38,6 +38,7 @@ public final class BoardEdgesTest extends Trial {
         check.sentence("The LINES 0 to ROWS - 1 are the rows, behind them come the columns",
                 this::lines);
         check.sentence("lay: all is as at first", this::laidAnew);
+        check.sentence("lay: what was typed and when is forgotten", this::laidAndTyped);
         check.sentence("lay: but LUCK and how many were REFUSED", this::laidButLuck);
         check.sentence("key returns how many KEYS are FITTED then: none to all",
                 this::manyFitted);
@@ -76,6 +77,8 @@ public final class BoardEdgesTest extends Trial {
         check.sentence("wouldGhost: 0, if it is not FITTED", this::wouldGhostNotFitted);
         check.sentence("wouldGhost: ahead of the first scan none is CLOSED besides",
                 this::wouldGhostFirst);
+        check.sentence("wouldGhost: CLOSED besides those that were, also if it was among them",
+                this::wouldGhostAlready);
     }
 
     private void sums() {
@@ -309,6 +312,30 @@ public final class BoardEdgesTest extends Trial {
         });
     }
 
+    /** The same at the same scans again, so that nothing of it is taken for what was before. */
+    private void laidAndTyped() {
+        Rowscan x = new Rowscan();
+        for (int i = 0; i < 2; i++) {
+            String round = i == 0 ? "first " : "anew ";
+            x.patience(1, false);
+            for (int letter = 20; letter < 26; letter++) {
+                x.chord(letter % 2 == 0 ? setOf(0, 4, 8) : setOf(0, 8), letter);
+            }
+            due(round + "LAG of none", 0, () -> x.of(8, 9));
+            x.hold(8, true);
+            due(round + "LAG as none was since", 0, () -> x.of(8, 9));
+            x.scan(5);
+            press(x, 0, 4);
+            due(round + "TEXT", "iaeuvwxyz", x::text);
+            due(round + "CHORDS typed", 6, () -> x.board(12));
+            due(round + "LAG", 1, () -> x.of(8, 9));
+            x.hold(8, false);
+            x.scan(5);
+            due(round + "EVENTS", 4, () -> x.board(3));
+            x.lay(3, 3);
+        }
+    }
+
     private void laidButLuck() {
         Rowscan x = new Rowscan();
         x.lay(2, 2);
@@ -436,12 +463,17 @@ public final class BoardEdgesTest extends Trial {
         Rowscan x = new Rowscan();
         x.lay(2, 2);
         due("four", 0, () -> x.board(8));
-        giveDiodes(x, 0, 1, 2);
-        due("three DIODES", 0, () -> x.board(8));
-        giveDiodes(x, 3);
+        giveDiodes(x, 0, 1, 2, 3);
         due("four DIODES", 1, () -> x.board(8));
-        fitOnly(x, 0, 1, 2);
-        due("three KEYS", 1, () -> x.board(8));
+        for (int key = 0; key < 4; key++) {
+            x.key(key, true, false, 0, 0);
+            due("all but " + key + " have DIODES", 0, () -> x.board(8));
+            due("LEAST, all but " + key, 3, () -> x.board(9));
+            x.key(key, false, false, 0, 0);
+            due("all but " + key + " are FITTED", 1, () -> x.board(8));
+            due("LEAST of three KEYS", NONE, () -> x.board(9));
+            x.key(key, true, true, 0, 0);
+        }
         // of the ten keys of a ring one goes back by every second one
         x.lay(5, 5);
         fitOnly(x, STAIRS);
@@ -638,6 +670,9 @@ public final class BoardEdgesTest extends Trial {
         due("as none helps, the first", 0, x::bestDiode);
         giveDiodes(x, 0);
         due("as none helps, the next", 1, x::bestDiode);
+        x.lay(2, 2);
+        x.line(1, true);
+        due("as none helps, the first, on a line that is not BROKEN", 0, x::bestDiode);
     }
 
     private void noBestDiode() {
@@ -674,6 +709,18 @@ public final class BoardEdgesTest extends Trial {
         due("ahead of the first one anew", 0, () -> x.wouldGhost(2));
     }
 
+    private void wouldGhostAlready() {
+        Rowscan x = quick(2, 2);
+        press(x, 0, 1, 2);
+        for (int i = 0; i < 3; i++) {
+            int key = i;
+            due("the GHOST that is there, by " + key, 8, () -> x.wouldGhost(key));
+        }
+        due("the GHOST itself", 0, () -> x.wouldGhost(3));
+        lift(x, 0, 1, 2);
+        due("all are lifted", 0, () -> x.wouldGhost(0));
+    }
+
     private void soundAtTheEnds() {
         for (int size = 0; size < 16; size++) {
             int rows = 2 + size / 4;
@@ -688,6 +735,13 @@ public final class BoardEdgesTest extends Trial {
             due("with a BROKEN LINE " + on, true, x::isSound);
             fitOnly(x);
             due("without a KEY " + on, true, x::isSound);
+        }
+        Rowscan y = quick(2, 2);
+        for (int i = 0; i < 62; i++) {
+            if (i > 58) {
+                due("behind " + i + " signs typed", true, y::isSound);
+            }
+            tap(y, 0);
         }
     }
 
@@ -709,15 +763,20 @@ public final class BoardEdgesTest extends Trial {
         due("on the greatest board", Traces.sum(y), y::digest);
         Rowscan z = quick(2, 2);
         due("on the smallest board", Traces.sum(z), z::digest);
+        giveDiodes(z, 0, 1);
+        due("best DIODE", 2, z::bestDiode);
+        due("with another best DIODE than the first", Traces.sum(z), z::digest);
+        giveDiodes(z, 2, 3);
+        due("without one, and CLEAR", Traces.sum(z), z::digest);
     }
 
     private void digestOfText() {
-        Rowscan x = quick(2, 2);
-        for (int i = 0; i < 62; i++) {
-            if (i < 2 || i > 58) {
-                due("behind " + i + " signs typed", Traces.sum(x), x::digest);
+        for (int typed : new int[] {0, 1, 2, 59, 60, 61}) {
+            Rowscan x = quick(2, 2);
+            for (int i = 0; i < typed; i++) {
+                tap(x, 3);
             }
-            tap(x, 3);
+            due("behind " + typed + " signs typed", Traces.sum(x), x::digest);
         }
     }
 

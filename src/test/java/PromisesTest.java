@@ -126,9 +126,9 @@ public final class PromisesTest extends Trial {
             x.key(1, true, false, 0, 0);
             press(x, 1);
             due(when + "a chord of events at the same scans", "abx", x::text);
-            for (int i = 0; i < 60; i++) {
-                press(x, 8);
-                lift(x, 8);
+            // four signs each: by keys 0 and 1, which are held, key 2 is a ghost then
+            for (int i = 0; i < 15; i++) {
+                tap(x, 6, 7, 8);
             }
             due(when + "lost", 3, () -> x.board(13));
             due(when + "typed", 1, () -> x.board(12));
@@ -870,13 +870,12 @@ public final class PromisesTest extends Trial {
         due("23: held", true, x::isSound);
         x.code(0, 0, 26);
         x.patience(1, false);
+        press(x, 0);
+        holdAll(x, false, 0, 1, 2, 3);
+        x.scan(1);
         for (int i = 0; i < 61; i++) {
-            press(x, 0);
+            tap(x, 0);
             due("23: with a long text", true, x::isSound);
-            x.hold(1, false);
-            x.hold(2, false);
-            x.hold(3, false);
-            lift(x, 0);
         }
         due("23: text is full", 60, () -> x.text().length());
         x.lay(3, 3);

@@ -32,11 +32,12 @@ public final class RefusedTest extends Trial {
 
     private final Setup busy = new Setup("busy", 3, 4, RefusedTest::makeBusy);
     private final Setup full = new Setup("full", 2, 2, RefusedTest::makeFull);
+    private final Setup chorded = new Setup("chorded", 2, 3, RefusedTest::makeChorded);
     private final Setup late = new Setup("late", 2, 3, RefusedTest::makeLate);
     private final Setup[] setups = {
         new Setup("new", 3, 3, x -> { }),
         new Setup("great", 5, 5, x -> x.lay(5, 5)),
-        busy, full, late};
+        busy, full, chorded, late};
 
     public static void main(String[] args) {
         RefusedTest test = new RefusedTest();
@@ -93,6 +94,17 @@ public final class RefusedTest extends Trial {
         x.scan(2);
         x.patience(6, true);
         x.code(0, 3, 27);
+    }
+
+    /** Six chords, all of which were typed just now. */
+    private static void makeChorded(Rowscan x) {
+        x.lay(2, 3);
+        x.patience(1, false);
+        for (int i = 0; i < 6; i++) {
+            x.chord(i % 2 == 0 ? 3 : 7, i);
+        }
+        press(x, 0, 1, 2);
+        x.scan(1);
     }
 
     private static void makeLate(Rowscan x) {
@@ -296,7 +308,7 @@ public final class RefusedTest extends Trial {
                 refused(setup, "chord(" + keys + ", 1)", ARGUMENT, x -> x.chord(keys, 1));
             }
             refused(setup, "no KEYS and no letter", ARGUMENT, x -> x.chord(0, 26));
-            if (setup != full) {
+            if (setup != full && setup != chorded) {
                 allowed(setup, "two KEYS", x -> x.chord(1 | 1 << setup.keys - 1, 1));
                 allowed(setup, "three KEYS", x -> x.chord(3 | 1 << setup.keys - 1, 1));
             }
@@ -308,7 +320,7 @@ public final class RefusedTest extends Trial {
             for (int letter : new int[] {-1, 26, LEAST, MOST}) {
                 refused(setup, "chord(3, " + letter + ")", ARGUMENT, x -> x.chord(3, letter));
             }
-            if (setup != full) {
+            if (setup != full && setup != chorded) {
                 allowed(setup, "the first letter", x -> x.chord(3, 0));
                 allowed(setup, "the last letter", x -> x.chord(3, 25));
             }
@@ -316,12 +328,15 @@ public final class RefusedTest extends Trial {
     }
 
     private void chordState() {
-        refused(full, "a seventh of two", STATE, x -> x.chord(3, 0));
-        refused(full, "a seventh of three", STATE, x -> x.chord(14, 25));
-        refused(full, "a seventh of one KEY", ARGUMENT, x -> x.chord(1, 0));
-        refused(full, "a seventh of no KEYS that there are", ARGUMENT, x -> x.chord(17, 0));
-        refused(full, "a seventh with letter 26", ARGUMENT, x -> x.chord(3, 26));
-        refused(full, "a seventh with letter -1", ARGUMENT, x -> x.chord(3, -1));
+        for (Setup setup : new Setup[] {full, chorded}) {
+            refused(setup, "a seventh of two", STATE, x -> x.chord(3, 0));
+            refused(setup, "a seventh of others", STATE, x -> x.chord(10, 7));
+            refused(setup, "a seventh of three", STATE, x -> x.chord(14, 25));
+            refused(setup, "a seventh of one KEY", ARGUMENT, x -> x.chord(1, 0));
+            refused(setup, "a seventh of no KEYS that there are", ARGUMENT, x -> x.chord(65, 0));
+            refused(setup, "a seventh with letter 26", ARGUMENT, x -> x.chord(3, 26));
+            refused(setup, "a seventh with letter -1", ARGUMENT, x -> x.chord(3, -1));
+        }
         allowed(busy, "the third to the sixth", x -> {
             x.chord(3, 0);
             x.chord(3, 0);

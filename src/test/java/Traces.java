@@ -5,8 +5,8 @@ import java.util.List;
 /**
  * What an object answers as it is asked for all that it tells, and then used so that what it keeps
  * to itself (codes, chords, bounces, counts) comes out too. Two objects that stand alike answer
- * alike. Of the 512 calls of its object a trace takes less than 150 on boards of twelve keys, and
- * less than 300 on the greatest one.
+ * alike. Of the 512 calls of its object a trace takes less than 220 on boards of twelve keys, and
+ * less than 450 on the greatest one.
  */
 final class Traces {
     interface Make {
@@ -82,6 +82,11 @@ final class Traces {
         for (int key = 0; key < keys; key++) {
             move(key, false);
         }
+        for (int i = 0; i < keys; i++) {
+            int key = i;
+            note("key " + key, () -> x.key(key, true, false, 0, 2));
+        }
+        scan();
         note("call", x::call);
         note("chord", () -> x.chord(3, 0));
         for (int i = 0; i < 3 * keys; i++) {
@@ -91,8 +96,13 @@ final class Traces {
         }
     }
 
+    /** Nothing is refused here, as what a refused call changes would come to both objects then. */
     private void move(int key, boolean isHeld) {
+        if (x.of(key, 0) == 0) {
+            return;
+        }
         note("hold " + key + " " + isHeld, () -> x.hold(key, isHeld));
+        note("LAG " + key, () -> x.of(key, 9));
         scan();
     }
 
