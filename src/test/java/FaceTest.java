@@ -85,19 +85,24 @@ public final class FaceTest {
         for (Constructor<?> c : Rowscan.class.getDeclaredConstructors()) {
             check.due("public without a parameter", 0, c::getParameterCount);
         }
-        for (Method m : Rowscan.class.getDeclaredMethods()) {
-            boolean isPrivate = Modifier.isPrivate(m.getModifiers());
-            check.due("no private namesake: " + m, false,
-                    () -> isPrivate && publicNames.contains(m.getName()));
-        }
+        noNamesakes(Rowscan.class, publicNames);
         for (Class<?> c : Rowscan.class.getDeclaredClasses()) {
             check.due("static " + c, true, () -> Modifier.isStatic(c.getModifiers()));
+            noNamesakes(c, publicNames);
             int counted = 0;
             for (Field f : c.getDeclaredFields()) {
                 counted += Modifier.isStatic(f.getModifiers()) ? 0 : 1;
             }
             int fields = counted;
             check.due("at most twenty fields in " + c, true, () -> fields <= 20);
+        }
+    }
+
+    private void noNamesakes(Class<?> c, Set<String> publicNames) {
+        for (Method m : c.getDeclaredMethods()) {
+            boolean isPrivate = Modifier.isPrivate(m.getModifiers());
+            check.due("no private namesake: " + m, false,
+                    () -> isPrivate && publicNames.contains(m.getName()));
         }
     }
 
